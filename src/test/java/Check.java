@@ -1,11 +1,20 @@
+import java.util.ArrayList;
+import java.util.HashSet;
+import java.util.List;
+import java.util.Set;
+
 /** What the tests have in common: counts the answers that are not due, and ends the run by them. */
 final class Check {
     interface Call {
         Object answer();
     }
 
+    private static final Set<String> tried = new HashSet<>();
+    private static final List<String> broken = new ArrayList<>();
+
     private static int made = 0;
     private static int wrong = 0;
+    private static String place = "";
 
     private Check() {
     }
@@ -14,12 +23,41 @@ final class Check {
         made++;
         if (!want.equals(got)) {
             wrong++;
-            System.out.println(what + " answered " + got + ", due is " + want);
+            System.out.println(place + what + " answered " + got + ", due is " + want);
         }
     }
 
     static void holds(String what, boolean isSo) {
         due(what, isSo, true);
+    }
+
+    /** A test for one sentence of the document alone, or for one case of it. */
+    static void sentence(String promise, String words, String tells, Runnable test) {
+        String name = promise + ": " + words + ": " + tells;
+        int madeBefore = made;
+        int wrongBefore = wrong;
+        place = name + ": ";
+        try {
+            test.run();
+        } catch (RuntimeException e) {
+            due("the test", "ended by " + e, "an end of its own");
+        }
+        holds("it checks something", made > madeBefore);
+        holds("no other test has this name", tried.add(name));
+        if (wrong > wrongBefore) {
+            broken.add(name);
+        }
+        place = "";
+    }
+
+    /** The names of the sentences that were tried so far. */
+    static Set<String> tried() {
+        return tried;
+    }
+
+    /** The names of those that did not hold. */
+    static List<String> broken() {
+        return broken;
     }
 
     /**

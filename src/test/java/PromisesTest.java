@@ -1,7 +1,7 @@
 /** A part for each promise of the document; the answers are counted by hand from its words. */
 public final class PromisesTest {
-    private static final int LOW = Integer.MIN_VALUE;
-    private static final int HIGH = Integer.MAX_VALUE;
+    private static final int LOW = Fairies.LOW;
+    private static final int HIGH = Fairies.HIGH;
 
     public static void main(String[] args) {
         newObject();
@@ -32,20 +32,6 @@ public final class PromisesTest {
         share();
         digest();
         Check.end("PromisesTest");
-    }
-
-    /** One wand, and one child (0) whose birthday is far off. */
-    private static FairyDust one(int room, int falls) {
-        FairyDust x = new FairyDust();
-        x.addWand(room, falls);
-        x.addChild(0, 29);
-        return x;
-    }
-
-    private static void deny(FairyDust x, int child, int times) {
-        for (int i = 0; i < times; i++) {
-            Check.due("a wish beyond the dust", x.wish(child, 20), false);
-        }
     }
 
     // Promise 1
@@ -114,7 +100,7 @@ public final class PromisesTest {
     }
 
     private static void addChildLater() {
-        FairyDust x = one(10, 0);
+        FairyDust x = Fairies.one(10, 0);
         x.pass(47);
         x.addChild(0, 1);
         x.addChild(0, 0);
@@ -126,7 +112,7 @@ public final class PromisesTest {
 
     // Promise 4
     private static void give() {
-        FairyDust x = one(10, 0);
+        FairyDust x = Fairies.one(10, 0);
         Check.outOfBounds(x, "4 give(0, 1) with one wand", () -> x.give(0, 1));
         x.addWand(20, 0);
         x.addWand(30, 0);
@@ -146,7 +132,7 @@ public final class PromisesTest {
 
     // Promise 5
     private static void setFall() {
-        FairyDust x = one(40, 2);
+        FairyDust x = Fairies.one(40, 2);
         x.addWand(40, 5);
         for (int wand : new int[] {-1, 2, LOW, HIGH}) {
             Check.outOfBounds(x, "5 setFall(" + wand + ", 0)", () -> x.setFall(wand, 0));
@@ -197,21 +183,21 @@ public final class PromisesTest {
 
     // Promise 6, what the terms say of punishment
     private static void punishment() {
-        FairyDust x = one(19, 0);
-        deny(x, 0, 2);
+        FairyDust x = Fairies.one(19, 0);
+        Fairies.deny(x, 0, 2);
         Check.due("6 punishedFor(0) with 2 marks", x.punishedFor(0), 0);
-        deny(x, 0, 1);
+        Fairies.deny(x, 0, 1);
         Check.due("6 punishedFor(0) with 3 marks", x.punishedFor(0), 4);
         Check.due("6 marksOf(0) with 3 marks", x.marksOf(0), 0);
         Check.due("6 wish(0, 1) of a punished child", x.wish(0, 1), false);
         Check.due("6 punishedFor(0) behind it", x.punishedFor(0), 5);
         Check.due("6 marksOf(0) behind it", x.marksOf(0), 0);
         Check.due("6 dustIn(0) behind it", x.dustIn(0), 19);
-        deny(x, 0, 42);
+        Fairies.deny(x, 0, 42);
         Check.due("6 punishedFor(0) behind 43", x.punishedFor(0), 47);
-        deny(x, 0, 1);
+        Fairies.deny(x, 0, 1);
         Check.due("6 punishedFor(0) behind 44", x.punishedFor(0), 48);
-        deny(x, 0, 1);
+        Fairies.deny(x, 0, 1);
         Check.due("6 punishedFor(0) behind 45", x.punishedFor(0), 48);
         x.pass(47);
         Check.due("6 wish(0, 1) in the last punished hour", x.wish(0, 1), false);
@@ -219,7 +205,7 @@ public final class PromisesTest {
         Check.due("6 wish(0, 1) behind the punishment", x.wish(0, 1), true);
         int[] hours = {8, 16, 32, 32, 32};
         for (int due : hours) {
-            deny(x, 0, 3);
+            Fairies.deny(x, 0, 3);
             Check.due("6 punishedFor(0) the next time", x.punishedFor(0), due);
             x.forgive(0);
         }
@@ -227,15 +213,15 @@ public final class PromisesTest {
 
     // Promise 7
     private static void forgive() {
-        FairyDust x = one(5, 0);
+        FairyDust x = Fairies.one(5, 0);
         for (int child : new int[] {-1, 1, LOW, HIGH}) {
             Check.outOfBounds(x, "7 forgive(" + child + ")", () -> x.forgive(child));
         }
         Check.due("7 forgive(0) without punishment", x.forgive(0), 0);
-        deny(x, 0, 2);
+        Fairies.deny(x, 0, 2);
         Check.due("7 forgive(0) with 2 marks", x.forgive(0), 0);
         Check.due("7 marksOf(0)", x.marksOf(0), 0);
-        deny(x, 0, 4);
+        Fairies.deny(x, 0, 4);
         Check.due("7 forgive(0) of a punished child", x.forgive(0), 5);
         Check.due("7 punishedFor(0)", x.punishedFor(0), 0);
         Check.due("7 nextPunishment(0) stays", x.nextPunishment(0), 8);
@@ -245,7 +231,7 @@ public final class PromisesTest {
 
     // Promise 8
     private static void pass() {
-        FairyDust x = one(20, 3);
+        FairyDust x = Fairies.one(20, 3);
         x.addWand(60, 9);
         for (int hours : new int[] {0, -1, 101, LOW, HIGH}) {
             Check.badArgument(x, "8 pass(" + hours + ")", () -> x.pass(hours));
@@ -280,7 +266,7 @@ public final class PromisesTest {
 
     // Promises 11 to 15
     private static void counts() {
-        FairyDust x = one(10, 0);
+        FairyDust x = Fairies.one(10, 0);
         x.addWand(1, 0);
         x.addChild(0, 29);
         x.addChild(1, 29);
@@ -289,9 +275,9 @@ public final class PromisesTest {
         x.wish(2, 1);
         x.wish(1, 1);
         Check.due("13 granted()", x.granted(), 2);
-        deny(x, 1, 3);
+        Fairies.deny(x, 1, 3);
         Check.due("15 punished()", x.punished(), 1);
-        deny(x, 2, 5);
+        Fairies.deny(x, 2, 5);
         Check.due("13 granted() behind denied ones", x.granted(), 2);
         Check.due("14 denied() counts those of the punished too", x.denied(), 8);
         Check.due("15 punished()", x.punished(), 2);
@@ -303,7 +289,7 @@ public final class PromisesTest {
 
     // Promise 16
     private static void dustIn() {
-        FairyDust x = one(30, 4);
+        FairyDust x = Fairies.one(30, 4);
         for (int wand : new int[] {-1, 1, LOW, HIGH}) {
             Check.outOfBounds(x, "16 dustIn(" + wand + ")", () -> x.dustIn(wand));
         }
@@ -318,7 +304,7 @@ public final class PromisesTest {
 
     // Promise 17
     private static void users() {
-        FairyDust x = one(5, 0);
+        FairyDust x = Fairies.one(5, 0);
         x.addWand(5, 0);
         for (int wand : new int[] {-1, 2, LOW, HIGH}) {
             Check.outOfBounds(x, "17 users(" + wand + ")", () -> x.users(wand));
@@ -334,7 +320,7 @@ public final class PromisesTest {
 
     // Promise 18
     private static void wandOf() {
-        FairyDust x = one(5, 0);
+        FairyDust x = Fairies.one(5, 0);
         x.addWand(5, 0);
         x.addChild(1, 0);
         for (int child : new int[] {-1, 2, LOW, HIGH}) {
@@ -364,26 +350,20 @@ public final class PromisesTest {
         Check.due("19 burstOf(0) on its last hour", x.burstOf(0), 7);
         x.pass(1);
         Check.due("19 burstOf(0) the next day", x.burstOf(0), 0);
-        passDays(x, 29);
+        Fairies.passDays(x, 29);
         Check.due("19 burstOf(0) 30 days later", x.burstOf(0), 12);
-    }
-
-    private static void passDays(FairyDust x, int days) {
-        for (int i = 0; i < days; i++) {
-            x.pass(24);
-        }
     }
 
     // Promise 20
     private static void punishedFor() {
-        FairyDust x = one(5, 0);
+        FairyDust x = Fairies.one(5, 0);
         for (int child : new int[] {-1, 1, LOW, HIGH}) {
             Check.outOfBounds(x, "20 punishedFor(" + child + ")", () -> x.punishedFor(child));
         }
         Check.due("20 punishedFor(0)", x.punishedFor(0), 0);
         x.pass(1);
         Check.due("20 punishedFor(0) stays 0", x.punishedFor(0), 0);
-        deny(x, 0, 3);
+        Fairies.deny(x, 0, 3);
         x.pass(1);
         Check.due("20 punishedFor(0) behind 1 hour", x.punishedFor(0), 3);
         x.pass(3);
@@ -394,16 +374,16 @@ public final class PromisesTest {
 
     // Promise 21
     private static void marksOf() {
-        FairyDust x = one(5, 0);
+        FairyDust x = Fairies.one(5, 0);
         for (int child : new int[] {-1, 1, LOW, HIGH}) {
             Check.outOfBounds(x, "21 marksOf(" + child + ")", () -> x.marksOf(child));
         }
-        deny(x, 0, 2);
+        Fairies.deny(x, 0, 2);
         x.pass(100);
         Check.due("21 marksOf(0) stay with time", x.marksOf(0), 2);
         x.wish(0, 1);
         Check.due("21 marksOf(0) behind a granted wish", x.marksOf(0), 1);
-        deny(x, 0, 1);
+        Fairies.deny(x, 0, 1);
         Check.due("21 marksOf(0) again", x.marksOf(0), 2);
         x.grantedIn(0, 20, 5);
         Check.due("21 marksOf(0) behind a question", x.marksOf(0), 2);
@@ -411,14 +391,14 @@ public final class PromisesTest {
 
     // Promise 22
     private static void nextPunishment() {
-        FairyDust x = one(5, 0);
+        FairyDust x = Fairies.one(5, 0);
         for (int child : new int[] {-1, 1, LOW, HIGH}) {
             Check.outOfBounds(x, "22 nextPunishment(" + child + ")", () -> x.nextPunishment(child));
         }
         int[] hours = {4, 8, 16, 32, 32, 32};
         for (int due : hours) {
             Check.due("22 nextPunishment(0)", x.nextPunishment(0), due);
-            deny(x, 0, 3);
+            Fairies.deny(x, 0, 3);
             x.pass(50);
         }
     }
@@ -441,7 +421,7 @@ public final class PromisesTest {
         x.pass(1);
         Check.due("23 daysToBirthday(0) the day behind", x.daysToBirthday(0), 29);
         Check.due("23 daysToBirthday(2) today", x.daysToBirthday(2), 0);
-        passDays(x, 30);
+        Fairies.passDays(x, 30);
         Check.due("23 daysToBirthday(1) 31 days on", x.daysToBirthday(1), 28);
     }
 
@@ -461,14 +441,14 @@ public final class PromisesTest {
         x.wish(1, 15);
         Check.due("24 greatestWish(0), 2 and 0", x.greatestWish(0), 2);
         Check.due("24 greatestWish(1) without dust", x.greatestWish(1), 0);
-        deny(x, 0, 3);
+        Fairies.deny(x, 0, 3);
         Check.due("24 greatestWish(0) of a punished child", x.greatestWish(0), 0);
         Check.due("24 burstOf(0) is there all the same", x.burstOf(0), 2);
     }
 
     // Promise 25
     private static void hoursUntil() {
-        FairyDust x = one(20, 1);
+        FairyDust x = Fairies.one(20, 1);
         for (int child : new int[] {-1, 1, LOW, HIGH}) {
             Check.outOfBounds(x, "25 hoursUntil(" + child + ", 1)", () -> x.hoursUntil(child, 1));
             Check.outOfBounds(x, "25 hoursUntil(" + child + ", 0)", () -> x.hoursUntil(child, 0));
@@ -481,7 +461,7 @@ public final class PromisesTest {
         Check.due("25 hoursUntil(0, 2) now", x.hoursUntil(0, 2), 0);
         Check.due("25 hoursUntil(0, 3)", x.hoursUntil(0, 3), 1);
         Check.due("25 hoursUntil(0, 20)", x.hoursUntil(0, 20), 18);
-        deny(x, 0, 3);
+        Fairies.deny(x, 0, 3);
         Check.due("25 hoursUntil(0, 1) of a punished child", x.hoursUntil(0, 1), 4);
         Check.due("25 hoursUntil(0, 10) of a punished child", x.hoursUntil(0, 10), 8);
         Check.due("25 dustIn(0) is not changed", x.dustIn(0), 2);
@@ -508,7 +488,7 @@ public final class PromisesTest {
     }
 
     private static void hoursUntilRoom() {
-        FairyDust x = one(10, 9);
+        FairyDust x = Fairies.one(10, 9);
         x.wish(0, 10);
         Check.due("25 hoursUntil(0, 10), 9 and 1", x.hoursUntil(0, 10), 2);
         Check.due("25 hoursUntil(0, 11) beyond the room", x.hoursUntil(0, 11), -1);
@@ -516,7 +496,7 @@ public final class PromisesTest {
 
     // Promise 26
     private static void grantedIn() {
-        FairyDust x = one(10, 1);
+        FairyDust x = Fairies.one(10, 1);
         for (int child : new int[] {-1, 1, LOW, HIGH}) {
             Check.outOfBounds(x, "26 grantedIn(" + child + ", 1, 1)", () -> x.grantedIn(child, 1, 1));
             Check.outOfBounds(x, "26 grantedIn(" + child + ", 0, 0)", () -> x.grantedIn(child, 0, 0));
@@ -565,7 +545,7 @@ public final class PromisesTest {
 
     // Promise 27
     private static void fallWanted() {
-        FairyDust x = one(60, 9);
+        FairyDust x = Fairies.one(60, 9);
         for (int child : new int[] {-1, 1, LOW, HIGH}) {
             Check.outOfBounds(x, "27 fallWanted(" + child + ", 1)", () -> x.fallWanted(child, 1));
             Check.outOfBounds(x, "27 fallWanted(" + child + ", 0)", () -> x.fallWanted(child, 0));
@@ -580,21 +560,21 @@ public final class PromisesTest {
         Check.due("27 fallWanted(0, 20)", x.fallWanted(0, 20), 19);
         Check.due("27 setFall(0, 9) is not changed", x.setFall(0, 9), 9);
         Check.due("27 pass(1) is not changed", x.pass(1), 0);
-        Check.due("27 fallWanted(0, 1) of 24 grains", one(24, 0).fallWanted(0, 1), 0);
-        Check.due("27 fallWanted(0, 1) of 23 grains", one(23, 0).fallWanted(0, 1), 1);
+        Check.due("27 fallWanted(0, 1) of 24 grains", Fairies.one(24, 0).fallWanted(0, 1), 0);
+        Check.due("27 fallWanted(0, 1) of 23 grains", Fairies.one(23, 0).fallWanted(0, 1), 1);
         fallWantedOfLittle();
         fallWantedOnBirthday();
     }
 
     private static void fallWantedOfLittle() {
-        FairyDust x = one(20, 0);
+        FairyDust x = Fairies.one(20, 0);
         Check.due("27 fallWanted(0, 20) as fast as taken", x.fallWanted(0, 20), 20);
         x.wish(0, 1);
         Check.due("27 fallWanted(0, 20) with the first denied", x.fallWanted(0, 20), -1);
         Check.due("27 fallWanted(0, 19)", x.fallWanted(0, 19), 19);
-        FairyDust narrow = one(10, 0);
+        FairyDust narrow = Fairies.one(10, 0);
         Check.due("27 fallWanted(0, 11) beyond the room", narrow.fallWanted(0, 11), -1);
-        deny(narrow, 0, 3);
+        Fairies.deny(narrow, 0, 3);
         Check.due("27 fallWanted(0, 1) of a punished child", narrow.fallWanted(0, 1), -1);
     }
 
@@ -612,7 +592,7 @@ public final class PromisesTest {
 
     // Promise 28
     private static void hoursUntilFull() {
-        FairyDust x = one(60, 1);
+        FairyDust x = Fairies.one(60, 1);
         for (int wand : new int[] {-1, 1, LOW, HIGH}) {
             Check.outOfBounds(x, "28 hoursUntilFull(" + wand + ")", () -> x.hoursUntilFull(wand));
         }
@@ -665,7 +645,7 @@ public final class PromisesTest {
 
     // Promise 30
     private static void share() {
-        FairyDust x = one(2, 0);
+        FairyDust x = Fairies.one(2, 0);
         Check.due("30 share() without wishes", x.share(), 0.0);
         x.wish(0, 1);
         Check.due("30 share() of 1", x.share(), 1.0);
@@ -675,7 +655,7 @@ public final class PromisesTest {
         Check.due("30 share() of 3", x.share(), 1.0 / 3.0);
         x.wish(0, 1);
         Check.due("30 share() of 4", x.share(), 0.5);
-        FairyDust none = one(2, 0);
+        FairyDust none = Fairies.one(2, 0);
         none.wish(0, 3);
         Check.due("30 share() with none granted", none.share(), 0.0);
     }
@@ -688,7 +668,7 @@ public final class PromisesTest {
         x.addChild(0, 29);
         x.addChild(0, 0);
         x.wish(0, 7);
-        deny(x, 0, 1);
+        Fairies.deny(x, 0, 1);
         x.pass(25);
         x.wish(1, 6);
         // The dust is 10 - 7, then full, then 4 with the wish of 6.
@@ -701,7 +681,7 @@ public final class PromisesTest {
         Check.due("31 digest()", x.digest(), due);
         Check.due("31 digest() again", x.digest(), due);
         // 50 grains are 12 wishes of 4, but 10 of 5; 24 wishes of 3 take 72, of 4 take 96.
-        Check.due("31 digest() of 50 grains", one(50, 0).digest(), sum(0, 0, 1, 1, 0, 0, 0, 0,
+        Check.due("31 digest() of 50 grains", Fairies.one(50, 0).digest(), sum(0, 0, 1, 1, 0, 0, 0, 0,
                 50, 1, 0,
                 0, 0, 0, 0, 4, 29, 20, 0, 12, 1));
     }
