@@ -88,6 +88,16 @@ final class Fairies {
         }
     }
 
+    /** A fairy without wands and children at that hour. */
+    static FairyDust at(int hour) {
+        return later(new FairyDust(), hour);
+    }
+
+    static FairyDust later(FairyDust x, int hours) {
+        passHours(x, hours);
+        return x;
+    }
+
     /** Any number of hours, also of more than one call. */
     static void passHours(FairyDust x, int hours) {
         for (int rest = hours; rest > 0; rest -= 100) {

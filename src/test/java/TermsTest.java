@@ -33,21 +33,15 @@ public final class TermsTest {
         sentence("Time is told in hours, from 0", "none has gone by", () ->
                 Check.due("hour()", new FairyDust().hour(), 0));
         sentence("A day has 24 hours", "the hour 23 is the last one of the day 0", () ->
-                Check.due("day()", at(23).day(), 0));
+                Check.due("day()", Fairies.at(23).day(), 0));
         sentence("A day has 24 hours", "the hour 24 is the first one of the day 1", () ->
-                Check.due("day()", at(24).day(), 1));
+                Check.due("day()", Fairies.at(24).day(), 1));
         sentence("/ is cut towards 0", "the hour 47 is still of the day 1", () ->
-                Check.due("day()", at(47).day(), 1));
+                Check.due("day()", Fairies.at(47).day(), 1));
         sentence("the day of an hour is the hour / 24", "the hour 48", () ->
-                Check.due("day()", at(48).day(), 2));
+                Check.due("day()", Fairies.at(48).day(), 2));
         sentence("the day of an hour is the hour / 24", "the day 30 is not the day 0", () ->
-                Check.due("day()", at(720).day(), 30));
-    }
-
-    private static FairyDust at(int hour) {
-        FairyDust x = new FairyDust();
-        Fairies.passHours(x, hour);
-        return x;
+                Check.due("day()", Fairies.at(720).day(), 30));
     }
 
     private static void wands() {

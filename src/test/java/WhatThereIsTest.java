@@ -27,19 +27,13 @@ public final class WhatThereIsTest {
         Check.sentence(promise, words, tells, test);
     }
 
-    private static FairyDust at(int hour) {
-        FairyDust x = new FairyDust();
-        Fairies.passHours(x, hour);
-        return x;
-    }
-
     private static void hour() {
         sentence("9", "Returns the hour", "it does not begin anew with the day", () ->
-                Check.due("hour()", at(24).hour(), 24));
+                Check.due("hour()", Fairies.at(24).hour(), 24));
         sentence("9", "Returns the hour", "it does not begin anew behind 30 days", () ->
-                Check.due("hour()", at(721).hour(), 721));
+                Check.due("hour()", Fairies.at(721).hour(), 721));
         sentence("9", "Returns the hour", "a refused call lets none go by", () -> {
-            FairyDust x = at(7);
+            FairyDust x = Fairies.at(7);
             Check.badArgument(x, "pass(0)", () -> x.pass(0));
             Check.badArgument(x, "pass(101)", () -> x.pass(101));
             Check.due("hour()", x.hour(), 7);
@@ -54,15 +48,15 @@ public final class WhatThereIsTest {
 
     private static void day() {
         sentence("10", "Returns the day", "the first one, to its last hour", () -> {
-            Check.due("day() at 0", at(0).day(), 0);
-            Check.due("day() at 23", at(23).day(), 0);
+            Check.due("day() at 0", Fairies.at(0).day(), 0);
+            Check.due("day() at 23", Fairies.at(23).day(), 0);
         });
         sentence("10", "Returns the day", "the second one, from its first hour", () ->
-                Check.due("day() at 24", at(24).day(), 1));
+                Check.due("day() at 24", Fairies.at(24).day(), 1));
         sentence("10", "Returns the day", "it does not begin anew behind 30 days", () -> {
-            Check.due("day() at 719", at(719).day(), 29);
-            Check.due("day() at 720", at(720).day(), 30);
-            Check.due("day() at 744", at(744).day(), 31);
+            Check.due("day() at 719", Fairies.at(719).day(), 29);
+            Check.due("day() at 720", Fairies.at(720).day(), 30);
+            Check.due("day() at 744", Fairies.at(744).day(), 31);
         });
     }
 

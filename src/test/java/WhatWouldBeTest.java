@@ -70,9 +70,9 @@ public final class WhatWouldBeTest {
         return x;
     }
 
-    private static FairyDust later(FairyDust x, int hours) {
-        Fairies.passHours(x, hours);
-        return x;
+    /** One full wand, into which nothing falls, and one child with that birthday, at that hour. */
+    private static FairyDust bornAt(int hour, int birthday, int room) {
+        return Fairies.later(Fairies.born(birthday, room, 0), hour);
     }
 
     private static void greatestWish() {
@@ -86,9 +86,9 @@ public final class WhatWouldBeTest {
         greatest("a wish that would be granted now", "1 grain", () -> Fairies.left(1, 60, 9), 1);
         greatest("a wish that would be granted now", "a burst of 12 alone", () -> burst(0, 9), 12);
         greatest("a wish that would be granted now", "the burst comes in an hour",
-                () -> later(Fairies.born(1, 5, 0), 23), 5);
-        greatest("a wish that would be granted now", "the burst has come", () -> later(Fairies.born(1, 5, 0), 24), 17);
-        greatest("a wish that would be granted now", "the burst has ended", () -> later(Fairies.born(1, 5, 0), 48), 5);
+                () -> bornAt(23, 1, 5), 5);
+        greatest("a wish that would be granted now", "the burst has come", () -> bornAt(24, 1, 5), 17);
+        greatest("a wish that would be granted now", "the burst has ended", () -> bornAt(48, 1, 5), 5);
         sentence("24", "a wish that would be granted now", "it is, and a greater one is not", () -> {
             for (int child = 0; child < 10; child++) {
                 int size = Fairies.full().greatestWish(child);
@@ -101,8 +101,8 @@ public final class WhatWouldBeTest {
     private static void greatestWishOfNone() {
         greatest("0 if none would", "punished, with dust and a burst", () -> punishedAt(1), 0);
         greatest("0 if none would", "neither dust nor a burst", () -> Fairies.left(0, 60, 9), 0);
-        greatest("0 if none would", "the last punished hour", () -> later(punished(60, 9), 3), 0);
-        greatest("0 if none would", "behind the punishment", () -> later(punished(60, 2), 4), 8);
+        greatest("0 if none would", "the last punished hour", () -> Fairies.later(punished(60, 9), 3), 0);
+        greatest("0 if none would", "behind the punishment", () -> Fairies.later(punished(60, 2), 4), 8);
     }
 
     private static void greatest(String words, String tells, Supplier<FairyDust> made, int size) {
@@ -135,8 +135,8 @@ public final class WhatWouldBeTest {
         sentence("25", "in how many hours", "so it comes", () -> {
             FairyDust x = Fairies.left(0, 20, 3);
             Check.due("hoursUntil(0, 19)", x.hoursUntil(0, 19), 7);
-            Check.due("greatestWish(0) the hour ahead", later(x, 6).greatestWish(0), 18);
-            Check.due("greatestWish(0) then", later(x, 1).greatestWish(0), 20);
+            Check.due("greatestWish(0) the hour ahead", Fairies.later(x, 6).greatestWish(0), 18);
+            Check.due("greatestWish(0) then", Fairies.later(x, 1).greatestWish(0), 20);
         });
         sentence("25", "if there is no such child", "the last of 10 is one, with a wand of its own", () -> {
             FairyDust x = Fairies.many(1, 9);
@@ -157,7 +157,7 @@ public final class WhatWouldBeTest {
         until("in how many hours", "punished for 4, the dust comes ahead", () -> punished(60, 9), 20, 4);
         until("in how many hours", "punished for 4, the dust comes then", () -> punished(60, 5), 20, 4);
         until("in how many hours", "punished for 4, the dust comes behind", () -> punished(60, 4), 20, 5);
-        until("in how many hours", "punished, the last hour", () -> later(punished(60, 9), 3), 1, 1);
+        until("in how many hours", "punished, the last hour", () -> Fairies.later(punished(60, 9), 3), 1, 1);
         until("-1 if not by then", "punished, and nothing falls", () -> punished(60, 0), 1, -1);
         sentence("25", "in how many hours", "punished for 48", () -> {
             FairyDust x = Fairies.one(10, 0);
@@ -178,12 +178,12 @@ public final class WhatWouldBeTest {
     }
 
     private static void hoursUntilBirthday() {
-        until("at most 100", "the birthday comes in 99 hours", () -> later(Fairies.born(5, 5, 0), 21), 17, 99);
-        until("at most 100", "the birthday comes in 100 hours", () -> later(Fairies.born(5, 5, 0), 20), 17, 100);
-        until("-1 if not by then", "the birthday comes in 101 hours", () -> later(Fairies.born(5, 5, 0), 19), 17, -1);
-        until("-1 if not by then", "a birthday is not enough", () -> later(Fairies.born(5, 5, 0), 20), 18, -1);
-        until("in how many hours", "the day 30 is the birthday 0", () -> later(Fairies.born(0, 5, 0), 700), 17, 20);
-        until("in how many hours", "the day 31 is the birthday 1", () -> later(Fairies.born(1, 5, 0), 700), 17, 44);
+        until("at most 100", "the birthday comes in 99 hours", () -> bornAt(21, 5, 5), 17, 99);
+        until("at most 100", "the birthday comes in 100 hours", () -> bornAt(20, 5, 5), 17, 100);
+        until("-1 if not by then", "the birthday comes in 101 hours", () -> bornAt(19, 5, 5), 17, -1);
+        until("-1 if not by then", "a birthday is not enough", () -> bornAt(20, 5, 5), 18, -1);
+        until("in how many hours", "the day 30 is the birthday 0", () -> bornAt(700, 0, 5), 17, 20);
+        until("in how many hours", "the day 31 is the birthday 1", () -> bornAt(700, 1, 5), 17, 44);
         until("in how many hours", "a burst of 12, and 1 falls", () -> burst(0, 1), 15, 3);
         until("in how many hours", "a burst of 12 that ends ahead", () -> lateBurst(22), 15, 15);
         until("in how many hours", "a burst of 12 that does in its last hour", () -> lateBurst(20), 15, 3);
@@ -243,8 +243,8 @@ public final class WhatWouldBeTest {
         grantedIn(words, "each second one, 7 in all", () -> Fairies.left(0, 3, 1), 2, 7, 3);
         grantedIn(words, "3 marks, and each wish makes the punishment longer", () -> Fairies.left(0, 3, 1), 3, 60, 0);
         grantedIn(words, "punished, with dust enough", () -> punished(60, 9), 1, 60, 0);
-        grantedIn(words, "punished, the last hour", () -> later(punished(60, 9), 3), 1, 60, 0);
-        grantedIn(words, "behind the punishment", () -> later(punished(60, 9), 4), 1, 60, 60);
+        grantedIn(words, "punished, the last hour", () -> Fairies.later(punished(60, 9), 3), 1, 60, 0);
+        grantedIn(words, "behind the punishment", () -> Fairies.later(punished(60, 9), 4), 1, 60, 60);
         sentence("26", words, "2 marks are there, and the first is denied", () -> {
             FairyDust x = Fairies.left(4, 5, 5);
             Check.due("grantedIn(0, 5, 2) without marks", x.grantedIn(0, 5, 2), 1);
@@ -262,14 +262,14 @@ public final class WhatWouldBeTest {
     private static void grantedInBirthday() {
         String words = "one behind each hour but the last one";
         // Denied at the hours 22 and 23; from 24 on there are 12 grains, 3 times 4.
-        grantedIn(words, "the birthday has not begun", () -> later(Fairies.born(1, 1, 0), 22), 4, 2, 0);
-        grantedIn(words, "the birthday begins with the last wish", () -> later(Fairies.born(1, 1, 0), 22), 4, 3, 1);
-        grantedIn(words, "the birthday's burst is used up", () -> later(Fairies.born(1, 1, 0), 22), 4, 60, 3);
-        grantedIn(words, "punished as the birthday begins", () -> later(Fairies.born(1, 1, 0), 21), 4, 60, 0);
+        grantedIn(words, "the birthday has not begun", () -> bornAt(22, 1, 1), 4, 2, 0);
+        grantedIn(words, "the birthday begins with the last wish", () -> bornAt(22, 1, 1), 4, 3, 1);
+        grantedIn(words, "the birthday's burst is used up", () -> bornAt(22, 1, 1), 4, 60, 3);
+        grantedIn(words, "punished as the birthday begins", () -> bornAt(21, 1, 1), 4, 60, 0);
         // 1 grain of the burst at 22 and at 23, then 1 of the wand.
-        grantedIn(words, "the burst ends", () -> later(Fairies.born(0, 1, 0), 22), 1, 60, 3);
-        grantedIn(words, "the burst's last hour", () -> later(Fairies.born(0, 1, 0), 23), 12, 2, 1);
-        grantedIn(words, "the birthday 0 begins with the day 30", () -> later(Fairies.born(0, 1, 0), 719), 12, 2, 1);
+        grantedIn(words, "the burst ends", () -> bornAt(22, 0, 1), 1, 60, 3);
+        grantedIn(words, "the burst's last hour", () -> bornAt(23, 0, 1), 12, 2, 1);
+        grantedIn(words, "the birthday 0 begins with the day 30", () -> bornAt(719, 0, 1), 12, 2, 1);
     }
 
     private static void fallWanted() {
@@ -317,7 +317,7 @@ public final class WhatWouldBeTest {
         wanted("-1 if 20 do not do", "the wish of now is denied", () -> Fairies.left(19, 60, 9), 20, -1);
         wanted("-1 if 20 do not do", "the wand is empty now", () -> Fairies.left(0, 60, 9), 1, -1);
         wanted("-1 if 20 do not do", "a grain more than there is room", () -> Fairies.one(10, 9), 11, -1);
-        wanted("-1 if 20 do not do", "punished, with dust enough", () -> later(punished(60, 9), 3), 1, -1);
+        wanted("-1 if 20 do not do", "punished, with dust enough", () -> Fairies.later(punished(60, 9), 3), 1, -1);
         wanted("-1 if 20 do not do", "a burst for the wish of now alone", () -> Fairies.born(0, 8, 0), 20, -1);
     }
 
@@ -326,12 +326,12 @@ public final class WhatWouldBeTest {
         wanted("would have to fall into its wand", "as far as there is room", () -> Fairies.born(0, 40, 0), 3, 2);
         wanted("all of 24 such wishes", "12 of the burst, 12 of dust", () -> Fairies.born(0, 12, 0), 1, 0);
         wanted("all of 24 such wishes", "12 of the burst, 11 of dust", () -> Fairies.born(0, 11, 0), 1, 1);
-        wanted("all of 24 such wishes", "the birthday comes behind 12", () -> later(Fairies.born(1, 12, 0), 12), 1, 0);
+        wanted("all of 24 such wishes", "the birthday comes behind 12", () -> bornAt(12, 1, 12), 1, 0);
         wanted("all of 24 such wishes", "the birthday comes behind 12, of 11",
-                () -> later(Fairies.born(1, 11, 0), 12), 1, 1);
-        wanted("all of 24 such wishes", "the burst ends behind 1", () -> later(Fairies.born(0, 23, 0), 23), 1, 0);
+                () -> bornAt(12, 1, 11), 1, 1);
+        wanted("all of 24 such wishes", "the burst ends behind 1", () -> bornAt(23, 0, 23), 1, 0);
         wanted("all of 24 such wishes", "the burst ends behind 1, of 22",
-                () -> later(Fairies.born(0, 22, 0), 23), 1, 1);
+                () -> bornAt(23, 0, 22), 1, 1);
     }
 
     private static void hoursUntilFull() {
@@ -346,9 +346,9 @@ public final class WhatWouldBeTest {
         full("-1 if not by then", "1 grain, nothing falls", () -> Fairies.left(9, 10, 0), -1);
         full("-1 if not by then", "60 grains, nothing falls", () -> Fairies.left(0, 60, 0), -1);
         sentence("28", "in how many hours it is full", "so it comes", () -> {
-            FairyDust x = later(Fairies.left(0, 60, 7), 8);
+            FairyDust x = Fairies.later(Fairies.left(0, 60, 7), 8);
             Check.due("hoursUntilFull(0) the hour ahead", x.hoursUntilFull(0), 1);
-            Check.due("hoursUntilFull(0) then", later(x, 1).hoursUntilFull(0), 0);
+            Check.due("hoursUntilFull(0) then", Fairies.later(x, 1).hoursUntilFull(0), 0);
         });
         sentence("28", "if there is no such wand", "the last of 4 is one", () -> {
             FairyDust x = Fairies.many(3, 0);
@@ -368,7 +368,7 @@ public final class WhatWouldBeTest {
         best("-1 if to none", "without wands", () -> new FairyDust(), 1, -1);
         best("-1 if to none", "without children", () -> Fairies.many(4, 0), 1, -1);
         best("-1 if to none", "a grain too few", () -> Fairies.many(1, 10), 11, -1);
-        best("-1 if to none", "the only one is punished", () -> later(punished(60, 9), 3), 1, -1);
+        best("-1 if to none", "the only one is punished", () -> Fairies.later(punished(60, 9), 3), 1, -1);
         best("of several the smallest number", "10 of one wand", () -> Fairies.many(1, 10), 5, 0);
         best("granted now with the most dust left", "none is left", () -> Fairies.many(1, 10), 10, 0);
         best("granted now with the most dust left", "20 of 20", () -> Fairies.one(20, 0), 20, 0);
@@ -484,7 +484,7 @@ public final class WhatWouldBeTest {
         digested("9 grains, 1 falls", () -> Fairies.left(9, 60, 1));
         digested("5 grains", () -> Fairies.left(5, 60, 0));
         digested("4 grains", () -> Fairies.left(4, 60, 0));
-        digested("the day 31", () -> later(Fairies.born(1, 20, 2), 750));
+        digested("the day 31", () -> Fairies.later(Fairies.born(1, 20, 2), 750));
         sentence("31", "wraps around as a 64-bit integer", "nothing but that", () -> {
             FairyDust x = Fairies.full();
             BigInteger whole = whole(x);
